@@ -190,8 +190,19 @@ final class Model {
     if (part == 2) {
       return i <= 128 ? disk[i] : -1;
     }
-    byte[] row = part == 0 ? key : part == 1 ? counterBytes() : twice(pools[part - 3].toByteArray());
+    byte[] row = rowOf(part);
     return i < row.length ? row[i] & 255 : -1;
+  }
+
+  private byte[] rowOf(int part) {
+    switch (part) {
+      case 0:
+        return key;
+      case 1:
+        return counterBytes();
+      default:
+        return twice(pools[part - 3].toByteArray());
+    }
   }
 
   boolean spoil(int i, int b) {

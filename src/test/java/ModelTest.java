@@ -6,8 +6,8 @@ final class ModelTest {
   private static final int CALLS = 512;
   private static final int LOOKS = 64;
   private static final int[] EDGES = {
-    Integer.MIN_VALUE, Integer.MIN_VALUE + 1, -6, -5, -2, -1, 0, 1, 2, 3, 4, 5, 6, 15, 16, 17, 31, 32,
-    33, 34, 35, 37, 38, 63, 64, 65, 66, 127, 128, 129, 130, 255, 256, 257, 2147483547,
+    Integer.MIN_VALUE, Integer.MIN_VALUE + 1, -6, -5, -2, -1, 0, 1, 2, 3, 4, 5, 6, 15, 16, 17, 31,
+    32, 33, 34, 35, 37, 38, 63, 64, 65, 66, 127, 128, 129, 130, 255, 256, 257, 2147483547,
     Integer.MAX_VALUE - 1, Integer.MAX_VALUE
   };
 
@@ -41,7 +41,8 @@ final class ModelTest {
     while (call < CALLS - LOOKS) {
       if (burst > 0) {
         burst--;
-        event(random.nextInt(256), random.nextInt(8) == 0 ? random.nextInt(32) : 0, random.nextInt(256));
+        int pool = random.nextInt(8) == 0 ? random.nextInt(32) : 0;
+        event(random.nextInt(256), pool, random.nextInt(256));
       } else if (random.nextInt(100) < wild) {
         anyCall(true);
       } else if (random.nextInt(12) == 0) {
@@ -114,7 +115,8 @@ final class ModelTest {
         byteOf(pick(wild, 35), pick(wild, random.nextBoolean() ? 16 : 129));
         break;
       case 20:
-        spoil(pick(wild, random.nextBoolean() ? 1 : 129), pick(wild, random.nextBoolean() ? 4 : 256));
+        int i = pick(wild, random.nextBoolean() ? 1 : 129);
+        spoil(i, pick(wild, random.nextBoolean() ? 4 : 256));
         break;
       default:
         due("about", dice::about, model::about, pick(wild, random.nextBoolean() ? 6 : 38));
@@ -153,7 +155,8 @@ final class ModelTest {
 
   private void byteOf(int part, int i) {
     call++;
-    Check.due(place("byteOf(" + part + ", " + i + ")"), dice.byteOf(part, i), model.byteOf(part, i));
+    String text = place("byteOf(" + part + ", " + i + ")");
+    Check.due(text, dice.byteOf(part, i), model.byteOf(part, i));
   }
 
   private void spoil(int i, int b) {
