@@ -148,18 +148,16 @@ public final class PoolDice {
   }
 
   private int byteOfPool(int part, int i) {
-    // The range comes before the subtraction, which could wrap around.
-    if (part < PART_POOLS || !isPool(part - PART_POOLS) || i < 0 || i >= Digest.BYTES) {
+    int pool = part - PART_POOLS;
+    if (!isPool(pool) || i < 0 || i >= Digest.BYTES) {
       return NONE;
     }
-    return generator.byteOfTwice(part - PART_POOLS, i);
+    return generator.byteOfTwice(pool, i);
   }
 
   private int sizeOfPool(int what) {
-    if (what < ABOUT_POOLS || !isPool(what - ABOUT_POOLS)) {
-      return NONE;
-    }
-    return generator.pools[what - ABOUT_POOLS].size;
+    int pool = what - ABOUT_POOLS;
+    return isPool(pool) ? generator.pools[pool].size : NONE;
   }
 
   private static int byteAt(int[] row, int i, int count) {
@@ -494,8 +492,12 @@ public final class PoolDice {
       int g = hash[6];
       int h = hash[7];
       for (int t = 0; t < ROUNDS; t++) {
-        int u = h + turnE(e) + (e & f ^ ~e & g) + K[t] + w[t];
-        int v = turnA(a) + (a & b ^ a & c ^ b & c);
+        int eTurned =
+            Integer.rotateRight(e, 6) ^ Integer.rotateRight(e, 11) ^ Integer.rotateRight(e, 25);
+        int aTurned =
+            Integer.rotateRight(a, 2) ^ Integer.rotateRight(a, 13) ^ Integer.rotateRight(a, 22);
+        int u = h + eTurned + (e & f ^ ~e & g) + K[t] + w[t];
+        int v = aTurned + (a & b ^ a & c ^ b & c);
         h = g;
         g = f;
         f = e;
@@ -513,14 +515,6 @@ public final class PoolDice {
       hash[5] += f;
       hash[6] += g;
       hash[7] += h;
-    }
-
-    private static int turnE(int e) {
-      return Integer.rotateRight(e, 6) ^ Integer.rotateRight(e, 11) ^ Integer.rotateRight(e, 25);
-    }
-
-    private static int turnA(int a) {
-      return Integer.rotateRight(a, 2) ^ Integer.rotateRight(a, 13) ^ Integer.rotateRight(a, 22);
     }
 
     private void handOut(int[] into, int at) {

@@ -4,8 +4,8 @@ import java.lang.management.ManagementFactory;
 /** Any arguments in any state, also long behind the 512th call: no call throws, little is made. */
 final class LimitsTest {
   private static final int[] ARGUMENTS = {
-    Integer.MIN_VALUE, Integer.MIN_VALUE + 2, Integer.MIN_VALUE + 5, -1, 0, 1, 2, 31, 32, 34, 35, 37,
-    38, 128, 129, 255, 256, 257, Integer.MAX_VALUE
+    Integer.MIN_VALUE, Integer.MIN_VALUE + 2, Integer.MIN_VALUE + 5, -1, 0, 1, 2, 31, 32, 34, 35,
+    37, 38, 128, 129, 255, 256, 257, Integer.MAX_VALUE
   };
 
   private LimitsTest() {}
