@@ -804,7 +804,7 @@ final class PromisesTest {
   // Promise 10: byteOf.
 
   private static void byteOfEachPart() {
-    Check.sentence("Byte i of the KEY (part = 0) or the COUNTER (1), 0 .. 15, of the disk (2), 0 .. 128");
+    Check.sentence("or the COUNTER (1), 0 .. 15, of the disk (2), 0 .. 128, of TWICE");
     for (int part = 0; part <= 34; part++) {
       Dice dice = Dice.busy();
       int count = part == 2 ? 129 : part < 2 ? 16 : 32;
